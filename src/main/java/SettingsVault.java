@@ -973,17 +973,17 @@ public final class SettingsVault {
         }
 
         private void readRecords(Page page) {
-            next = HEAD_CELLS;
-            while (next < CELLS && page.hasRecordAt(next)) {
-                int name = page.nameAt(next);
-                if (isName(name) && page.hasGoodRecordAt(next, presentLayout(), version)) {
-                    values[name] = page.valueAt(next + 1);
-                    places[name] = next;
+            int at = HEAD_CELLS;
+            for (; at < CELLS && page.hasRecordAt(at); at += RECORD_CELLS) {
+                int name = page.nameAt(at);
+                if (isName(name) && page.hasGoodRecordAt(at, presentLayout(), version)) {
+                    values[name] = page.valueAt(at + 1);
+                    places[name] = at;
                 } else {
                     badRecords++;
                 }
-                next += RECORD_CELLS;
             }
+            next = at;
         }
 
         /** Gives a setting a value; returns the number of cells that were written. */

@@ -58,6 +58,7 @@ public final class ImagesTest {
         Check.due("its place", vault.record(0), 6);
         Check.due("back(1)", vault.back(1), 1);
         Check.due("version", vault.state(2), 1);
+        Check.due("sequence", vault.state(3), 1);
         Check.due("the failure", vault.state(9), 20);
         Check.due("c", vault.get(2), 9);
         Check.due("its record", vault.record(2), 6);

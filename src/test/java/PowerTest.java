@@ -12,6 +12,7 @@ public final class PowerTest {
         activePage();
         heads();
         records();
+        recordWithCheckZero();
         Check.end();
     }
 
@@ -197,6 +198,12 @@ public final class PowerTest {
             vault.spoil(0, i, before);
             Check.due("head cell right " + i, vault.start(), 0);
         }
+        Check.due("a head with the check 0", Check.headCheck(0, 181), 0);
+        Check.spoilHead(vault, 0, 0, 181);
+        Check.due("it is good", vault.start(), 0);
+        // The check would fit if the erased cell counted as the number that tells that it is erased.
+        Check.spoilThree(vault, 0, 0, 200, NONE, Check.headCheck(0, NONE));
+        Check.due("an erased sequence", vault.start(), NONE);
     }
 
     private static void records() {
@@ -236,5 +243,14 @@ public final class PowerTest {
         Check.due("no room", vault.state(4), 0);
         Check.due("set goes to the other page", vault.set(0, 1), 6);
         Check.due("bad ones of the latest start stay", vault.state(5), 15);
+    }
+
+    private static void recordWithCheckZero() {
+        SettingsVault vault = Check.ready("+e99=0");
+        Check.due("set", vault.set(4, 42), 3);
+        Check.due("its check", vault.cell(0, 5), 0);
+        Check.due("start", vault.start(), 0);
+        Check.due("it is good", vault.get(4), 42);
+        Check.due("its place", vault.record(4), 3);
     }
 }
