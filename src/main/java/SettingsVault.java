@@ -563,7 +563,7 @@ public final class SettingsVault {
             if (length + count > PAD_LENGTH) {
                 return TOO_MANY;
             }
-            for (int left = count - 1; left >= 0; left--) {
+            for (int left = count - 1; left >= 0 && length < PAD_LENGTH; left--) {
                 signs[length] = (char) ((characters >>> (8 * left)) & 255);
                 length++;
             }

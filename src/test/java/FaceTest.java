@@ -7,7 +7,7 @@ import java.util.Set;
 import java.util.TreeSet;
 
 /** The public face, and promise 1. */
-public final class FaceTest {
+public final class FaceTest extends Check {
     private static final String[] METHODS = {
         "int define()", "int layout(int,int,int)", "int fail(int)", "int start()", "int get(int)",
         "int set(int,int)", "int compact()", "int migrate(int)", "int factory(int)", "int cell(int,int)",
@@ -19,21 +19,21 @@ public final class FaceTest {
         constants();
         members();
         promise01();
-        Check.end();
+        end();
     }
 
     private static void constants() {
-        Check.due("NO_SUCH", SettingsVault.NO_SUCH, -1);
-        Check.due("BAD_VALUE", SettingsVault.BAD_VALUE, -2);
-        Check.due("BAD_TEXT", SettingsVault.BAD_TEXT, -3);
-        Check.due("TOO_MANY", SettingsVault.TOO_MANY, -4);
-        Check.due("NOT_POSSIBLE", SettingsVault.NOT_POSSIBLE, -5);
-        Check.due("NONE", SettingsVault.NONE, -6);
+        due("NO_SUCH", SettingsVault.NO_SUCH, -1);
+        due("BAD_VALUE", SettingsVault.BAD_VALUE, -2);
+        due("BAD_TEXT", SettingsVault.BAD_TEXT, -3);
+        due("TOO_MANY", SettingsVault.TOO_MANY, -4);
+        due("NOT_POSSIBLE", SettingsVault.NOT_POSSIBLE, -5);
+        due("NONE", SettingsVault.NONE, -6);
     }
 
     private static void members() {
         Class<?> face = SettingsVault.class;
-        Check.due("public final", face.getModifiers() & (Modifier.PUBLIC | Modifier.FINAL),
+        due("public final", face.getModifiers() & (Modifier.PUBLIC | Modifier.FINAL),
             Modifier.PUBLIC | Modifier.FINAL);
         Set<String> due = new TreeSet<>(Arrays.asList(METHODS));
         Set<String> names = new TreeSet<>();
@@ -42,20 +42,20 @@ public final class FaceTest {
         }
         for (Method method : face.getDeclaredMethods()) {
             if (Modifier.isPrivate(method.getModifiers())) {
-                Check.due("private " + method, names.contains(method.getName()) ? 1 : 0, 0);
+                due("private " + method, names.contains(method.getName()) ? 1 : 0, 0);
             } else {
-                Check.due("extra " + method, due.remove(signature(method)) ? 0 : 1, 0);
-                Check.due("modifiers of " + method, method.getModifiers(), Modifier.PUBLIC);
+                due("extra " + method, due.remove(signature(method)) ? 0 : 1, 0);
+                due("modifiers of " + method, method.getModifiers(), Modifier.PUBLIC);
             }
         }
-        Check.due("missing " + due, due.size(), 0);
+        due("missing " + due, due.size(), 0);
         for (Field field : face.getDeclaredFields()) {
             boolean isConstant = Modifier.isPublic(field.getModifiers());
-            Check.due("field " + field, isConstant || Modifier.isPrivate(field.getModifiers()) ? 1 : 0, 1);
+            due("field " + field, isConstant || Modifier.isPrivate(field.getModifiers()) ? 1 : 0, 1);
         }
         Constructor<?>[] constructors = face.getDeclaredConstructors();
-        Check.due("constructors", constructors.length, 1);
-        Check.due("parameters of it", constructors[0].getParameterCount(), 0);
+        due("constructors", constructors.length, 1);
+        due("parameters of it", constructors[0].getParameterCount(), 0);
     }
 
     private static String signature(Method method) {
@@ -69,24 +69,20 @@ public final class FaceTest {
 
     private static void promise01() {
         SettingsVault vault = new SettingsVault();
-        int none = SettingsVault.NONE;
-        int[] states = {1, none, none, none, 0, 0, 0, 0, 0, none, 0, 0, 0};
-        for (int what = 0; what < states.length; what++) {
-            Check.due("new: state(" + what + ")", vault.state(what), states[what]);
-        }
+        dueStates("new", vault, 0, 1, NONE, NONE, NONE, 0, 0, 0, 0, 0, NONE, 0, 0, 0);
         for (int page = 0; page < 2; page++) {
             for (int index = 0; index < 48; index++) {
-                Check.due("new: cell " + index, vault.cell(page, index), SettingsVault.NONE);
+                due("new: cell " + index, vault.cell(page, index), NONE);
             }
             for (int what = 0; what < 6; what++) {
-                Check.due("new: page, " + what, vault.page(page, what), 0);
+                due("new: page, " + what, vault.page(page, what), 0);
             }
         }
-        Check.due("new: layout", vault.layout(0, 0, 0), SettingsVault.NO_SUCH);
-        Check.due("new: back", vault.back(0), SettingsVault.NOT_POSSIBLE);
-        Check.due("new: get", vault.get(0), SettingsVault.NO_SUCH);
-        Check.due("new: start", vault.start(), SettingsVault.NONE);
+        due("new: layout", vault.layout(0, 0, 0), NO_SUCH);
+        due("new: back", vault.back(0), NOT_POSSIBLE);
+        due("new: get", vault.get(0), NO_SUCH);
+        due("new: start", vault.start(), NONE);
         vault.put(97);
-        Check.due("objects share nothing", new SettingsVault().state(12), 0);
+        due("objects share nothing", new SettingsVault().state(12), 0);
     }
 }

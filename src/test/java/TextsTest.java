@@ -1,5 +1,5 @@
 /** Promises 18 to 20: the pad and its faults. */
-public final class TextsTest {
+public final class TextsTest extends Check {
     public static void main(String[] args) {
         promise18();
         promise18errors();
@@ -8,22 +8,22 @@ public final class TextsTest {
         promise20good();
         promise20faults();
         promise20early();
-        Check.end();
+        end();
     }
 
     private static void promise18() {
         SettingsVault vault = new SettingsVault();
-        Check.due("one", vault.put(Check.code("+")), 1);
-        Check.due("four", vault.put(Check.code("a9=1")), 5);
-        Check.due("eight", vault.put(Check.code(",+b7=5,a")), 13);
-        Check.due("two", vault.put(Check.code("*2")), 15);
-        Check.due("define", vault.define(), 0);
-        Check.due("a", vault.layout(0, 0, 0), 18);
-        Check.due("b", vault.layout(0, 1, 1), 5);
-        Check.due("33", vault.put(33), 1);
-        Check.due("126", vault.put(126), 2);
-        Check.due("126 eight times", vault.put(0x7e7e7e7e7e7e7e7eL), 10);
-        Check.due("33 eight times", vault.put(0x2121212121212121L), 18);
+        due("one", vault.put(code("+")), 1);
+        due("four", vault.put(code("a9=1")), 5);
+        due("eight", vault.put(code(",+b7=5,a")), 13);
+        due("two", vault.put(code("*2")), 15);
+        due("define", vault.define(), 0);
+        due("a", vault.layout(0, 0, 0), 18);
+        due("b", vault.layout(0, 1, 1), 5);
+        due("33", vault.put(33), 1);
+        due("126", vault.put(126), 2);
+        due("126 eight times", vault.put(0x7e7e7e7e7e7e7e7eL), 10);
+        due("33 eight times", vault.put(0x2121212121212121L), 18);
     }
 
     private static void promise18errors() {
@@ -32,37 +32,37 @@ public final class TextsTest {
             0x7f61, 0x617f, 0x6100000000000000L, 0x6100000000000061L, 0x8061616161616161L, 0x0100000000000061L,
             0xe161616161616161L, 0x6161616120616161L, 0x80000061L};
         for (long characters : bad) {
-            Check.due("put " + characters, vault.put(characters), SettingsVault.BAD_VALUE);
+            due("put " + characters, vault.put(characters), BAD_VALUE);
         }
-        Check.due("nothing was put", vault.state(12), 0);
+        due("nothing was put", vault.state(12), 0);
     }
 
     private static void promise18full() {
         SettingsVault vault = new SettingsVault();
         for (int i = 1; i <= 9; i++) {
-            Check.due("put", vault.put(Check.code("a<1,a<1,")), 8 * i);
+            due("put", vault.put(code("a<1,a<1,")), 8 * i);
         }
-        Check.due("put 1", vault.put(97), 73);
-        Check.due("put 8", vault.put(Check.code("<1,a<1,a")), SettingsVault.TOO_MANY);
-        Check.due("a bad one", vault.put(0x6100), SettingsVault.BAD_VALUE);
-        Check.due("put 7", vault.put(Check.code("<1,a<11")), 80);
-        Check.due("one more", vault.put(97), SettingsVault.TOO_MANY);
-        Check.due("a bad one then", vault.put(0), SettingsVault.BAD_VALUE);
-        Check.due("length", vault.state(12), 80);
-        Check.due("no fault", vault.fault(), SettingsVault.NONE);
+        due("put 1", vault.put(97), 73);
+        due("put 8", vault.put(code("<1,a<1,a")), TOO_MANY);
+        due("a bad one", vault.put(0x6100), BAD_VALUE);
+        due("put 7", vault.put(code("<1,a<11")), 80);
+        due("one more", vault.put(97), TOO_MANY);
+        due("a bad one then", vault.put(0), BAD_VALUE);
+        due("length", vault.state(12), 80);
+        due("no fault", vault.fault(), NONE);
     }
 
     private static void promise19() {
         SettingsVault vault = new SettingsVault();
-        Check.due("wipe nothing", vault.wipe(), 0);
-        Check.pad(vault, "+a9=1,+b9=1");
-        Check.due("wipe", vault.wipe(), 11);
-        Check.due("wipe again", vault.wipe(), 0);
-        Check.due("fault", vault.fault(), 0);
-        Check.pad(vault, "+c9=1");
-        Check.due("define", vault.define(), 0);
-        Check.due("nothing of before", vault.layout(0, 0, 0), SettingsVault.NO_SUCH);
-        Check.due("c", vault.layout(0, 2, 0), 9);
+        due("wipe nothing", vault.wipe(), 0);
+        pad(vault, "+a9=1,+b9=1");
+        due("wipe", vault.wipe(), 11);
+        due("wipe again", vault.wipe(), 0);
+        due("fault", vault.fault(), 0);
+        pad(vault, "+c9=1");
+        due("define", vault.define(), 0);
+        due("nothing of before", vault.layout(0, 0, 0), NO_SUCH);
+        due("c", vault.layout(0, 2, 0), 9);
     }
 
     private static void promise20good() {
@@ -70,7 +70,7 @@ public final class TextsTest {
             "a*9", "a/2", "a/9", "a<0", "a<255", "a<249", "a<199", "a<25", "-a,-a,-a", "+a1=1,b>c,-d,e*2,f/3,g<4",
             "-a,-a,-a,-a,-a,-a,-a,-a,-a,-a,-a,-a,-a,-a,-a,-a,-a,-a,-a,-a,-a,-a,-a,-a,-a,-a,-a"};
         for (String text : good) {
-            Check.due("fault of " + text, Check.fault(text), SettingsVault.NONE);
+            due("fault of " + text, fault(text), NONE);
         }
     }
 
@@ -86,9 +86,9 @@ public final class TextsTest {
             2, 2, 2, 3, 2, 2, 2, 3, 2, 4, 3, 5, 2,
             4, 8, 4, 4, 3, 3, 2, 3, 14, 5,
             2, 2, 2, 2, 2, 2, 4, 4, 3, 4};
-        Check.due("rows", texts.length, faults.length);
+        due("rows", texts.length, faults.length);
         for (int i = 0; i < texts.length; i++) {
-            Check.due("fault of " + texts[i], Check.fault(texts[i]), faults[i]);
+            due("fault of " + texts[i], fault(texts[i]), faults[i]);
         }
     }
 
@@ -96,13 +96,13 @@ public final class TextsTest {
         String[] early = {"", "+", "+a", "+a1", "+a12", "+a255", "+a0", "+a1=", "-", "a", "a>", "a*", "a/", "a<", "-a,",
             "+a1=1,", "a<25,", "a*2,-", "a>b,c>"};
         for (String text : early) {
-            Check.due("fault of " + text, Check.fault(text), text.length());
+            due("fault of " + text, fault(text), text.length());
         }
         SettingsVault vault = new SettingsVault();
-        Check.pad(vault, "-a,b");
-        Check.due("fault", vault.fault(), 4);
-        Check.due("the pad stays", vault.state(12), 4);
-        vault.put(Check.code(">c"));
-        Check.due("no fault", vault.fault(), SettingsVault.NONE);
+        pad(vault, "-a,b");
+        due("fault", vault.fault(), 4);
+        due("the pad stays", vault.state(12), 4);
+        vault.put(code(">c"));
+        due("no fault", vault.fault(), NONE);
     }
 }
