@@ -95,7 +95,8 @@ public final class TextEdgesTest extends Check {
         for (int number : new int[] {256, 259, 260, 299, 300, 999}) {
             dueFaultAtTheEnd("a<" + number, "+a" + number, "+a1=" + number);
         }
-        dueFaultAtTheEnd("a<1000", "a<2550", "a<0:", "a<1:", "a<12:", "a</", "+a:", "+a/", "+a1=/");
+        dueFaultAtTheEnd("a<1000", "a<2550", "a</", "a<0/", "a<1/", "a<12/", "a<:", "a<0:", "a<1:", "a<12:",
+            "+a/", "+a1/", "+a:", "+a1:", "+a1=/", "+a1=1/", "+a1=:", "+a1=1:");
     }
 
     @Sentence("Texts: without leading zeros")
